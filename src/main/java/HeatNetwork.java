@@ -1144,9 +1144,10 @@ public final class HeatNetwork {
             hotTemperatures[PLANT] = network.settings[SUPPLY];
             for (int i = 1; i < shape.connected; i++) {
                 int node = waterOrder[i];
-                long heat = bring(network, shape.firstPipes[node], node) + bring(network, shape.secondPipes[node], node);
-                long carried = flowTo(network, shape.firstPipes[node], node)
-                        + flowTo(network, shape.secondPipes[node], node);
+                int first = shape.firstPipes[node];
+                int second = shape.secondPipes[node];
+                long heat = bring(network, first, node) + bring(network, second, node);
+                long carried = flowTo(network, first, node) + flowTo(network, second, node);
                 if (carried > 0) {
                     hotTemperatures[node] = (int) (heat / carried);
                     remainders[node] = heat % carried;

@@ -269,8 +269,10 @@ public final class RandomRunsTest {
             test.go(i);
         }
         System.out.println("reached: " + new java.util.TreeMap<>(test.seen));
-        for (String what : test.seen.keySet()) {
-            Check.due("the runs reach " + what, test.seen.get(what) > 0, true);
+        if (arguments.length == 0) {
+            for (String what : test.seen.keySet()) {
+                Check.due("the runs reach " + what, test.seen.get(what) > 0, true);
+            }
         }
         Check.end("RandomRunsTest");
     }
