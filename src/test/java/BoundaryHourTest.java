@@ -1,5 +1,5 @@
 /** The boundaries of flows, temperatures, rounds, heads, meters and bills: sentence by sentence, worked out by hand. */
-public final class BoundaryHourTest extends HandTest {
+public final class BoundaryHourTest extends ByHand {
     private BoundaryHourTest() {
     }
 

@@ -1,5 +1,5 @@
 /** The boundaries of settings, nodes, pipes and stations: sentence by sentence, worked out by hand. */
-public final class BoundaryPlaceTest extends HandTest {
+public final class BoundaryPlaceTest extends ByHand {
     private static final int[] LEAST = {600, 0, -300, 0, 1, 0, 0};
     private static final int[] GREATEST = {1200, 200, 300, 99, 999999999, 999, 99};
     private static final int[] FIRST = {900, 100, 0, 10, 50000000, 100, 5};

@@ -2,7 +2,7 @@ import java.util.regex.Matcher;
 import java.util.regex.Pattern;
 
 /** The boundaries of the text form and of what texts refuse: sentence by sentence, worked out by hand. */
-public final class BoundaryTextTest extends HandTest {
+public final class BoundaryTextTest extends ByHand {
     /** The sentences on texts once more, in another notation. */
     private static final Pattern TEXT = Pattern.compile("(?:p\\d-\\d:\\d{1,3},\\d{1,3};|s\\d:\\d{1,3},\\d{1,3},\\d{1,3};"
             + "|x\\d;|t\\d=-?\\d{1,3};|h\\d{1,3};)+");

@@ -1,5 +1,5 @@
 /** The promises of the document one by one, with answers that were worked out by hand from its words. */
-public final class PromiseTest extends HandTest {
+public final class PromiseTest extends ByHand {
     private PromiseTest() {
     }
 

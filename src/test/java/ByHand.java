@@ -1,7 +1,7 @@
 import java.util.NoSuchElementException;
 
 /** What the tests with answers worked out by hand share: names of exceptions, ways to call, and some networks. */
-abstract class HandTest {
+abstract class ByHand {
     static final Class<IndexOutOfBoundsException> INDEX = IndexOutOfBoundsException.class;
     static final Class<IllegalArgumentException> ARGUMENT = IllegalArgumentException.class;
     static final Class<UnsupportedOperationException> REFUSED = UnsupportedOperationException.class;
