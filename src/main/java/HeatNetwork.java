@@ -898,16 +898,23 @@ public final class HeatNetwork {
             isInLoop[closing] = true;
             int left = network.ones[closing];
             int right = network.others[closing];
-            for (int step = 0; step < NODES && left != right; step++) {
+            for (int step = 0; step < NODES && left != right && left >= 0 && right >= 0; step++) {
                 if (distances[left] >= distances[right]) {
-                    isInLoop[firstPipes[left]] = true;
-                    left = feeders[left];
+                    left = climb(left);
                 } else {
-                    isInLoop[firstPipes[right]] = true;
-                    right = feeders[right];
+                    right = climb(right);
                 }
             }
             goRound(network, left);
+        }
+
+        /** Takes the pipe toward the plant into the loop; answers the node at its other end, -1 from the plant. */
+        private int climb(int node) {
+            int pipe = firstPipes[node];
+            if (pipe >= 0) {
+                isInLoop[pipe] = true;
+            }
+            return feeders[node];
         }
 
         /** The pipe by which no node was reached first; there is at most one, as there is at most one loop. */
@@ -1052,10 +1059,12 @@ public final class HeatNetwork {
         private void findTreeFlows(Network network, Shape shape) {
             System.arraycopy(stationFlows, 0, flowsBehind, 0, NODES);
             Arrays.fill(pipeFlows, 0);
-            for (int i = shape.connected - 1; i > 0; i--) {
+            for (int i = shape.connected - 1; i >= 0; i--) {
                 int node = shape.order[i];
                 int feeder = shape.feeders[node];
-                flowsBehind[feeder] += flowsBehind[node];
+                if (feeder >= 0) {
+                    flowsBehind[feeder] += flowsBehind[node];
+                }
                 if (shape.secondPipes[node] < 0) {
                     carry(network, shape.firstPipes[node], feeder, flowsBehind[node]);
                 }
@@ -1101,8 +1110,11 @@ public final class HeatNetwork {
             return sum;
         }
 
+        /** The plant has no pipe toward itself: then it is -1. */
         private void carry(Network network, int pipe, int from, int carried) {
-            pipeFlows[pipe] = network.ones[pipe] == from ? carried : -carried;
+            if (pipe >= 0) {
+                pipeFlows[pipe] = network.ones[pipe] == from ? carried : -carried;
+            }
         }
 
         private void findWaterOrder(Shape shape) {
@@ -1167,10 +1179,11 @@ public final class HeatNetwork {
         /** The flow that a pipe carries to a node times the temperature that it brings. */
         private long bring(Network network, int pipe, int node) {
             int carried = flowTo(network, pipe, node);
-            if (carried == 0) {
+            int from = carried == 0 ? -1 : network.farEnd(pipe, node);
+            if (from < 0) {
                 return 0;
             }
-            int entering = hotTemperatures[network.farEnd(pipe, node)];
+            int entering = hotTemperatures[from];
             int leaving = network.cooled(pipe, carried, entering);
             pipeLosses[pipe] = (long) carried * (entering - leaving);
             return (long) carried * leaving;
@@ -1196,10 +1209,10 @@ public final class HeatNetwork {
 
         private void sendBack(Network network, int pipe, int node) {
             int carried = flowTo(network, pipe, node);
-            if (carried == 0) {
+            int to = carried == 0 ? -1 : network.farEnd(pipe, node);
+            if (to < 0) {
                 return;
             }
-            int to = network.farEnd(pipe, node);
             int entering = coolTemperatures[node];
             int leaving = network.cooled(pipe, carried, entering);
             pipeLosses[pipe] += (long) carried * (entering - leaving);
@@ -1211,9 +1224,10 @@ public final class HeatNetwork {
             Arrays.fill(heads, 0L);
             for (int i = 0; i < shape.connected; i++) {
                 int node = shape.order[i];
-                if (i > 0 && shape.secondPipes[node] < 0) {
-                    long drop = network.dropOf(shape.firstPipes[node], flowsBehind[node]);
-                    heads[node] = heads[shape.feeders[node]] + drop;
+                int feeder = shape.feeders[node];
+                int pipe = shape.firstPipes[node];
+                if (feeder >= 0 && pipe >= 0 && shape.secondPipes[node] < 0) {
+                    heads[node] = heads[feeder] + network.dropOf(pipe, flowsBehind[node]);
                 }
                 if (shape.isLoopBeginning(node)) {
                     findLoopHeads(network, shape);

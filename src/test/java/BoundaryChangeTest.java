@@ -168,6 +168,20 @@ public final class BoundaryChangeTest extends ByHand {
         Sentence.says("Promise 10", "Throws UnsupportedOperationException if they are refused for the reason 7; the "
                 + "reason is kept for refusal", () -> leastHeads());
         Sentence.says("Promise 10", "Throws IllegalArgumentException if the count is out of range", () -> counts());
+        Sentence.says("Promise 10", "how many, 1 to 24", () -> counts());
+        Sentence.says("Promise 10", "Returns the number of hours that went by in all.", () -> {
+            HeatNetwork x = new HeatNetwork();
+            due("the first", x.hours(1), 1);
+            due("24 more", x.hours(24), 25);
+            x.undo();
+            due("24 again", x.hours(24), 25);
+            due("in a text", runText(x, "h1;h2;"), 2);
+            due("one more", x.hours(1), 29);
+            x.save();
+            x.hours(24);
+            x.restore();
+            due("behind restore", x.hours(1), 30);
+        });
         Sentence.says("Hours", "in each of them meters, true heat, bills and the accounts of all hours grow.",
                 () -> growing());
         Sentence.says("Promise 34", "7 for all that was paid in them, also at stations that are removed", () -> {
@@ -476,6 +490,8 @@ public final class BoundaryChangeTest extends ByHand {
 
     private static void saved() {
         Sentence.says("Promise 39", "Saves the network, in place of an earlier snapshot.", () -> snapshots());
+        Sentence.says("Promise 39", "Returns the number of pipes.", () -> snapshots());
+        Sentence.says("Promise 40", "Returns the number of pipes.", () -> snapshots());
         Sentence.says("Promise 40", "Restores the network that was saved; the snapshot is kept.", () -> snapshots());
         Sentence.says("Promise 40", "Throws IllegalStateException if there is no snapshot", () -> {
             HeatNetwork x = oneStation();

@@ -212,6 +212,10 @@ public final class BoundaryHourTest extends ByHand {
         draw(y, 1, 1);
         due("direction(0) of the least flow", y.direction(0), '-');
         due("flow(0) of the least flow", y.flow(0), -1);
+        y.removePipe(0);
+        y.addPipe(0, 1, 1, 1);
+        due("direction(0) of the least flow the other way", y.direction(0), '+');
+        due("flow(0) of the least flow the other way", y.flow(0), 1);
     }
 
     private static void pipeFlows() {
@@ -223,6 +227,13 @@ public final class BoundaryHourTest extends ByHand {
                 () -> flowsBehind());
         Sentence.says("Pipe flows", "The loop goes from its beginning first to the one of its two neighbors in the "
                 + "loop that has the lower number, and so on round to its beginning.", () -> lowerNeighbor());
+        Sentence.says("Pipe flows", "A pipe that is not part of the loop carries the flow behind its end that is "
+                + "farther from the plant, toward this end.", () -> farEnds());
+        Sentence.says("Pipe flows", "each following pipe carries the flow of the one ahead of it minus the flow behind "
+                + "the node between both, where the loop itself is left out", () -> flowsBehind());
+        Sentence.says("Pipe flows", "a negative flow goes in the opposite direction.", () -> directions());
+        Sentence.says("Pipe flows", "The drop of a pipe is its resistance times its flow times the absolute value of "
+                + "its flow.", () -> drops());
         Sentence.says("Pipe flows", "x is the least number from 0 on for which the sum of the drops of all pipes of "
                 + "the loop is not negative; this sum is the imbalance.", () -> leastFirstFlow());
         Sentence.says("Promise 18", "Returns the flow, above 0 from its first node as it was told to the other one, "
@@ -240,6 +251,41 @@ public final class BoundaryHourTest extends ByHand {
         });
         Sentence.says("Details", "A loop without any flow has x 0 and the imbalance 0; loops of other parts are not "
                 + "told.", () -> quietLoops());
+    }
+
+    private static void farEnds() {
+        HeatNetwork x = chainOfTen();
+        draw(x, 9, 1);
+        for (int pipe = 0; pipe < 9; pipe++) {
+            due("1 at the end of all, flow(" + pipe + ")", x.flow(pipe), 1);
+        }
+        draw(x, 1, 28);
+        due("28 more at the first node", x.flow(0), 29);
+        due("and not behind it", x.flow(1), 1);
+        x.removeStation(9);
+        due("nothing behind it", x.flow(1), 0);
+        HeatNetwork y = pipesBetween(5, 0, 7, 5);
+        draw(y, 7, 3);
+        due("told from the far end", y.flow(0), -3);
+        due("told from the far end, farther", y.flow(1), -3);
+    }
+
+    private static void drops() {
+        // 6, 3 and -5 through resistances of 1: 36 + 9 - 25
+        HeatNetwork x = triangle();
+        due("imbalance()", x.imbalance(), 20);
+        due("head(2) - head(1)", x.head(2) - x.head(1), 36);
+        due("head(3) - head(2)", x.head(3) - x.head(2), 9);
+        x.addPipe(3, 4, 7, 3);
+        due("without a flow", x.head(4) - x.head(3), 0);
+        // the pipe is told the other way round, and carries as much
+        HeatNetwork y = pipesBetween(1, 0);
+        y.setSetting(3, 0);
+        draw(y, 1, 5);
+        due("head(1) through a pipe that carries -5", y.head(1), 25);
+        HeatNetwork z = ring(new int[] {1, 1, 1}, new int[] {1, 1, 1}, 5, 3);
+        due("a pipe that carries 0 and one that carries -3", z.head(3) - z.head(2), 0);
+        due("25 + 0 - 9", z.imbalance(), 16);
     }
 
     private static void quietLoops() {
@@ -344,12 +390,37 @@ public final class BoundaryHourTest extends ByHand {
         due("at the plant", y.temperature(0, true), 151);
         due("1 is left of 756", y.rounding(0), 1);
         balanced("a loop with two temperatures", y);
+        bothSides();
         HeatNetwork z = twoStations();
         due("2855 by 7: all but one is left", z.rounding(1), 6);
         z.setReturn(2, 450);
         // 2 * 300 + 4 * 450 = 2400 by 6
         due("2400 by 6: nothing is left", z.rounding(1), 0);
         due("temperature(1, true)", z.temperature(1, true), 400);
+    }
+
+    /** Water comes to the loop's second node from both sides. */
+    private static void bothSides() {
+        HeatNetwork x = new HeatNetwork();
+        x.addPipe(0, 1, 9, 1);
+        x.addPipe(1, 2, 1, 1);
+        x.addPipe(2, 0, 1, 1);
+        draw(x, 1, 5);
+        // x, x - 5, x - 5 through 9, 1, 1: 9 - 32 at 1, 36 - 18 at 2
+        due("flow(0)", x.flow(0), 2);
+        due("flow(1)", x.flow(1), -3);
+        due("flow(2)", x.flow(2), -3);
+        due("100 + 800 * 300 / 310", x.temperature(2, false), 874);
+        // 100 + 800 * 200 / 290 = 651, 100 + 774 * 300 / 310 = 849
+        due("2 * 651 + 3 * 849 by 5", x.temperature(1, false), 769);
+        due("4 is left of 3849", x.rounding(1), 4);
+        due("100 + 100 * 300 / 310", x.temperature(2, true), 196);
+        // 100 + 100 * 200 / 290 = 168, 100 + 96 * 300 / 310 = 192
+        due("2 * 168 + 3 * 192 by 5", x.temperature(0, true), 182);
+        due("2 is left of 912", x.rounding(0), 2);
+        due("9 * 4", x.head(1), 36);
+        due("36 - 9", x.head(2), 27);
+        balanced("from both sides", x);
     }
 
     private static void nodeAnswers() {
@@ -419,6 +490,14 @@ public final class BoundaryHourTest extends ByHand {
         Sentence.says("Temperatures", "A pipe with the flow f, which is not 0, changes the temperature t of the water "
                 + "that enters it to the ground temperature plus (t minus the ground temperature) * 100 * f / (100 * "
                 + "f + length * loss).", () -> falls());
+        Sentence.says("Temperatures", "The temperature of the plant is the supply temperature.", () -> {
+            HeatNetwork x = new HeatNetwork();
+            for (int supply : new int[] {600, 900, 1200}) {
+                x.setSetting(0, supply);
+                due("temperature(0, false)", x.temperature(0, false), supply);
+            }
+            due("with a loop", fullOfPipes().temperature(0, false), 900);
+        });
         Sentence.says("Temperatures", "without such a flow it is the ground temperature.", () -> withoutFlow());
         Sentence.says("Return", "without such a flow it is the ground temperature.", () -> withoutFlow());
         Sentence.says("Details", "Without a flow the return temperature of a node, also of the plant, is the ground "
@@ -467,7 +546,11 @@ public final class BoundaryHourTest extends ByHand {
                 + "after 12 rounds.", () -> lastRounds());
         Sentence.says("Details", "There are at least 2 rounds, as the first one has none before it.", () -> {
             due("no station", new HeatNetwork().rounds(), 2);
-            due("a station that is not connected", pipesBetween(0, 2).rounds(), 2);
+            HeatNetwork x = pipesBetween(0, 2, 8, 9);
+            draw(x, 9, 28);
+            due("a station that is not connected", x.rounds(), 2);
+            draw(x, 7, 28);
+            due("a station without a pipe", x.rounds(), 2);
             due("a flow that stays", still(900, 9, 0, 300, 9).rounds(), 2);
             due("a station that wants nothing", still(900, 9, 200, 300, 9).rounds(), 2);
         });
@@ -523,6 +606,31 @@ public final class BoundaryHourTest extends ByHand {
         balanced("the greatest flows", z);
     }
 
+    /** The first pipe of all is the last one that is reached, and lies behind others in the loop. */
+    private static void headsRound() {
+        HeatNetwork x = new HeatNetwork();
+        x.setSetting(3, 0);
+        x.addPipe(2, 3, 2, 1);
+        x.addPipe(0, 1, 1, 3);
+        x.addPipe(1, 2, 5, 1);
+        x.addPipe(3, 0, 1, 1);
+        draw(x, 2, 4);
+        draw(x, 3, 2);
+        // x, x, x - 4, x - 6 through 3, 5, 2, 1: 8 - 18 - 25 at 1, 32 - 8 - 16 at 2
+        loopNodes("pipe 0 is the third", x, 0, 1, 2, 3);
+        int[] flows = {-2, 2, 2};
+        for (int pipe = 0; pipe < 3; pipe++) {
+            due("flow(" + pipe + ")", x.flow(pipe), flows[pipe]);
+            due("pipe(" + pipe + ", 4)", x.pipe(pipe, 4), 1);
+        }
+        due("flow(3), told from node 3", x.flow(3), -4);
+        due("3 * 4", x.head(1), 12);
+        due("12 + 5 * 4", x.head(2), 32);
+        due("32 - 2 * 4", x.head(3), 24);
+        due("24 - 1 * 16", x.imbalance(), 8);
+        due("neededHead(), not at the last node", x.neededHead(), 32);
+    }
+
     private static void neededHeads() {
         due("no node at all", new HeatNetwork().neededHead(), 0);
         HeatNetwork x = still(650, 99, -300, 600, 10);
@@ -540,9 +648,13 @@ public final class BoundaryHourTest extends ByHand {
     private static void allHeads() {
         Sentence.says("Heads", "The head of a connected node is the sum of the drops along a way of pipes from the "
                 + "plant to it, counted in the direction away from the plant; at the loop the way begins with the first "
-                + "pipe of the loop.", () -> heads());
+                + "pipe of the loop.", () -> {
+            heads();
+            headsRound();
+        });
         Sentence.says("Heads", "The head that is needed is the greatest head of the nodes whose stations have a flow, "
                 + "0 without such a node.", () -> neededHeads());
+        Sentence.says("Promise 24", "Returns the head that is needed.", () -> neededHeads());
     }
 
     // ---- Meters and bills
@@ -654,6 +766,20 @@ public final class BoundaryHourTest extends ByHand {
         });
         Sentence.says("Meters", "In each hour the number grows by the heat of the station, by 0, or by the heat times "
                 + "the thousandths, divided by 1000, respectively.", () -> meters());
+        Sentence.says("Meters", "The true heat of a station is the sum of its heat in all hours since it was made.", () -> {
+            HeatNetwork x = oneStation();
+            x.setMeter(1, 1, 0);
+            x.hours(3);
+            x.setSetting(2, 200);
+            x.hours(24);
+            due("24 hours without heat", x.meter(1, 1), 3 * 1812);
+            x.removeStation(1);
+            x.setSetting(2, 0);
+            x.addStation(1, 9, 300, 9);
+            due("a new station", x.meter(1, 1), 0);
+            x.hours(1);
+            due("its first hour", x.meter(1, 1), 1812);
+        });
         Sentence.says("Bills", "that number times the tariff, divided by 1000.", () -> bills());
         Sentence.says("Bills", "The tariff is the price plus the rate times (its return temperature minus 400) divided "
                 + "by 10, but at least 0.", () -> tariffs());

@@ -35,6 +35,45 @@ public final class BoundaryPlaceTest extends ByHand {
         thrown("call 512", INDEX, () -> z.flow(1));
     }
 
+    private static void nothingThere() {
+        HeatNetwork x = new HeatNetwork();
+        due("count(0)", x.count(0), 0);
+        due("count(1)", x.count(1), 0);
+        thrown("pipe(0, 0)", INDEX, () -> x.pipe(0, 0));
+        thrown("removePipe(0)", INDEX, () -> x.removePipe(0));
+        for (int i = 0; i < 10; i++) {
+            int node = i;
+            thrown("station(" + i + ", 0)", ELEMENT, () -> x.station(node, 0));
+            thrown("trial(" + i + ", 300)", ELEMENT, () -> x.trial(node, 300));
+            due("part(" + i + ")", x.part(i), 1 << i);
+            due("isConnected(" + i + ")", x.isConnected(i), i == 0);
+            due("temperature(" + i + ", false)", x.temperature(i, false), i == 0 ? 900 : 100);
+            due("temperature(" + i + ", true)", x.temperature(i, true), 100);
+            due("rounding(" + i + ")", x.rounding(i), 0);
+        }
+        for (int what = 0; what < 8; what++) {
+            due("account(" + what + ")", x.account(what), 0);
+        }
+        due("distance(0)", x.distance(0), 0);
+        due("head(0)", x.head(0), 0);
+        due("neededHead()", x.neededHead(), 0);
+        due("rounds()", x.rounds(), 2);
+        due("returnDegrees()", x.returnDegrees(), 10.0f);
+        due("faultPosition()", x.faultPosition(), -1);
+        thrown("distance(1)", ELEMENT, () -> x.distance(1));
+        thrown("head(1)", ELEMENT, () -> x.head(1));
+        thrown("loop(0)", ELEMENT, () -> x.loop(0));
+        thrown("imbalance()", ELEMENT, () -> x.imbalance());
+        thrown("suspect()", ELEMENT, () -> x.suspect());
+        thrown("efficiency()", ARITHMETIC, () -> x.efficiency());
+        thrown("refusal()", ELEMENT, () -> x.refusal());
+        thrown("run()", ARGUMENT, () -> x.run());
+        thrown("undo()", STATE, () -> x.undo());
+        thrown("restore()", STATE, () -> x.restore());
+        due("hours(24)", x.hours(24), 24);
+        due("an object of its own", new HeatNetwork().account(4), 0);
+    }
+
     private static void roundedDown() {
         HeatNetwork x = drip(0, 200);
         // a length of 2 and a loss of 50 halve the difference to the ground of a flow of 1
@@ -89,6 +128,17 @@ public final class BoundaryPlaceTest extends ByHand {
         Sentence.says("Settings", "4 the greatest head of the pump, 1 to 999999999, 50000000 at first", () -> range(4));
         Sentence.says("Settings", "5 the price, 0 to 999, 100 at first", () -> range(5));
         Sentence.says("Settings", "6 the rate, 0 to 99, 5 at first", () -> range(6));
+        Sentence.says("Promise 2", "Throws IllegalArgumentException if the value is out of range", () -> {
+            HeatNetwork x = new HeatNetwork();
+            for (int i = 0; i < 7; i++) {
+                int setting = i;
+                thrown("below setting " + i, ARGUMENT, () -> x.setSetting(setting, LEAST[setting] - 1));
+                thrown("above setting " + i, ARGUMENT, () -> x.setSetting(setting, GREATEST[setting] + 1));
+                due("setting(" + i + ")", x.setting(i), FIRST[i]);
+                due("least", x.setSetting(i, LEAST[i]), FIRST[i]);
+                due("greatest", x.setSetting(i, GREATEST[i]), LEAST[i]);
+            }
+        });
         Sentence.says("Promise 2", "Returns the value before.", () -> {
             HeatNetwork x = new HeatNetwork();
             due("the same value again", x.setSetting(0, 900), 900);
@@ -266,6 +316,12 @@ public final class BoundaryPlaceTest extends ByHand {
         due("all nodes in one loop", fullOfPipes().count(3), 10);
     }
 
+    private static void runPipes(HeatNetwork x, int... ends) {
+        for (int i = 0; i < ends.length; i += 2) {
+            x.addPipe(ends[i], ends[i + 1], 1, 1);
+        }
+    }
+
     private static void connected() {
         HeatNetwork x = new HeatNetwork();
         due("the plant alone", x.isConnected(0), true);
@@ -300,6 +356,19 @@ public final class BoundaryPlaceTest extends ByHand {
         Sentence.says("Pipes", "Pipes never form more than one loop: the number of pipes in each part of the network "
                 + "that hangs together is at most the number of its nodes, and all other parts have one pipe less than "
                 + "nodes.", () -> oneLoop());
+        Sentence.says("Details", "A pipe between two parts that both have a loop is refused for the reason 5.", () -> {
+            HeatNetwork x = new HeatNetwork();
+            runPipes(x, 0, 1, 1, 2, 2, 0, 7, 8, 8, 9, 9, 7);
+            refused("from a loop to a loop", 5, x, () -> x.addPipe(1, 8, 1, 1));
+            runPipes(x, 2, 3, 4, 7);
+            refused("from what is behind one to what is behind the other", 5, x, () -> x.addPipe(3, 4, 1, 1));
+            due("from a loop to a node alone", x.addPipe(0, 5, 1, 1), 8);
+            due("from it to another one", x.addPipe(5, 6, 1, 1), 9);
+            x.removePipe(2);
+            due("when one of the loops is cut", x.addPipe(6, 4, 1, 1), 9);
+            due("all are connected", x.count(2), 10);
+            due("the loop that is left", x.count(3), 3);
+        });
         Sentence.says("Pipes", "A node is connected if a way along pipes leads from it to the plant.",
                 () -> connected());
     }
@@ -460,6 +529,7 @@ public final class BoundaryPlaceTest extends ByHand {
         });
         Sentence.says("Promise 4", "Throws UnsupportedOperationException if it is refused for one of the reasons 1 to "
                 + "5; the reason is kept for refusal", () -> refusedPipes());
+        Sentence.says("Promise 5", "Returns the number of pipes that remain.", () -> pipeNumbers());
         Sentence.says("Promise 5", "The numbers of later pipes decrease by 1.", () -> pipeNumbers());
         pipeIndexes();
         Sentence.says("Promise 15", "Throws IllegalArgumentException if what is not from 0 to 4", () -> whatOfPipe());
@@ -583,6 +653,8 @@ public final class BoundaryPlaceTest extends ByHand {
         Sentence.says("Stations", "The heat that it wants is its size times the number of tenths of a degree by which "
                 + "the outdoor temperature is below 200, 0 if it is not below.", () -> wantedHeat());
         Sentence.says("Promise 6", "Makes a station, with the meter at 0 and without a fault.", () -> newMeter());
+        Sentence.says("Promise 6", "Returns the number of stations.", () -> nineStations());
+        Sentence.says("Promise 7", "Returns the number of stations that remain.", () -> nineStations());
         Sentence.says("Promise 6", "Throws UnsupportedOperationException if it is refused for the reason 1, 2 or 6; "
                 + "the reason is kept for refusal", () -> refusedStations());
         Sentence.says("Promise 7", "Throws UnsupportedOperationException if it is refused for the reason 1 or 6; the "
@@ -649,6 +721,24 @@ public final class BoundaryPlaceTest extends ByHand {
             }
             due("setReturn(1, 600) again", x.setReturn(1, 600), 600);
         });
+        Sentence.says("Promise 8", "Returns the return temperature before.", () -> {
+            HeatNetwork x = oneStation();
+            due("the same again", x.setReturn(1, 300), 300);
+            due("another", x.setReturn(1, 200), 300);
+            due("and another", x.setReturn(1, 600), 200);
+        });
+        Sentence.says("Promise 9", "kept also for the faults 0 and 1", () -> {
+            HeatNetwork x = oneStation();
+            due("1000 at first", x.station(1, 4), 1000);
+            int[][] rows = {{0, 0, 0}, {0, 2000, 0}, {1, 0, 0}, {1, 2000, 1}, {2, 0, 1}, {2, 2000, 2}, {0, 1, 2}};
+            for (int[] row : rows) {
+                due("the fault before " + row[0], x.setMeter(1, row[0], row[1]), row[2]);
+                due("the fault " + row[0], x.station(1, 3), row[0]);
+                due("thousandths with the fault " + row[0], x.station(1, 4), row[1]);
+            }
+        });
+        Sentence.says("Meters", "It has a fault: 0 none, as at first, 1 it stands still, or 2 it counts only some "
+                + "thousandths of the heat, from 0 to 2000.", () -> meterRanges());
         Sentence.says("Promise 9", none, () -> {
             onlyAt9("setMeter", (x, node) -> x.setMeter(node, 1, 500));
             noStationFirst("setMeter to 3", (x, node) -> x.setMeter(node, 3, 500));
@@ -756,6 +846,17 @@ public final class BoundaryPlaceTest extends ByHand {
     }
 
     private static void whats() {
+        Sentence.says("Promise 28", "Returns the least number of pipes from the plant to a node.", () -> {
+            HeatNetwork x = fullOfPipes();
+            int[] distances = {0, 1, 2, 3, 4, 5, 4, 3, 2, 1};
+            for (int node = 0; node < 10; node++) {
+                due("distance(" + node + ") in the loop of all", x.distance(node), distances[node]);
+            }
+            x.removePipe(0);
+            for (int node = 1; node < 10; node++) {
+                due("distance(" + node + ") the other way round", x.distance(node), 10 - node);
+            }
+        });
         Sentence.says("Promise 27", "Throws NoSuchElementException if there is no such node", () -> loopIndexes());
         Sentence.says("Promise 29", "Returns the set of its nodes, bit n for node n.", () -> parts());
         Sentence.says("Promise 34", "Throws IllegalArgumentException if what is not from 0 to 7", () -> {
@@ -803,6 +904,7 @@ public final class BoundaryPlaceTest extends ByHand {
     public static void main(String[] arguments) {
         Sentence.says("What it is", "An object is used for at most 512 calls after it has been made",
                 () -> lastCall());
+        Sentence.says("Promise 1", "Creates a network without pipes and stations.", () -> nothingThere());
         Sentence.says("Numbers", "Divisions are rounded down.", () -> roundedDown());
         settings();
         pipes();
