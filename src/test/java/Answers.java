@@ -98,6 +98,15 @@ final class Answers {
         return isAnswer;
     }
 
+    /** Each answer must be the same whether it is asked first or behind all others. */
+    static void askedFirst(String name, Supplier<HeatNetwork> made, Made... calls) {
+        for (int i = 0; i < calls.length; i++) {
+            HeatNetwork x = made.get();
+            of(x);
+            Check.due(name + ", call " + i, calls[i].on(made.get()), calls[i].on(x));
+        }
+    }
+
     /**
      * Of two objects that are made alike, one makes the call. Both must answer alike then, and behind each number of
      * undos, and behind restore.

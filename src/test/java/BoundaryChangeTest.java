@@ -1,3 +1,4 @@
+import java.util.List;
 import java.util.function.Supplier;
 
 /** The boundaries of hours, changes, undo, snapshots and of calls that fail: sentence by sentence, by hand. */
@@ -400,7 +401,29 @@ public final class BoundaryChangeTest extends ByHand {
         due("the next hour", x.meter(1, 0), 3 * 906);
     }
 
+    /** What follows from a change is told by the very next call. */
+    private static void nextAnswers() {
+        Supplier<HeatNetwork> changed = () -> {
+            HeatNetwork x = young();
+            x.rounds();
+            x.setReturn(2, 500);
+            runText(x, "p4-3:9,9;s4:5,300,20;t1=50;");
+            return x;
+        };
+        for (Supplier<HeatNetwork> made : List.<Supplier<HeatNetwork>>of(() -> young(), changed)) {
+            Answers.askedFirst("asked first", made, x -> x.pipe(1, 4), x -> x.station(2, 6), x -> x.meter(3, 3),
+                    x -> x.flow(3), x -> x.direction(3), x -> x.temperature(3, false), x -> x.temperature(2, true),
+                    x -> x.loss(2), x -> x.rounding(3), x -> x.head(2), x -> x.neededHead(), x -> x.imbalance(),
+                    x -> x.rounds(), x -> x.loop(2), x -> x.distance(3), x -> x.part(3), x -> x.isConnected(3),
+                    x -> x.suspect(), x -> x.trial(2, 250), x -> x.bestReturn(3), x -> x.account(0),
+                    x -> x.account(1), x -> x.account(2), x -> x.account(3), x -> x.efficiency(),
+                    x -> x.returnDegrees(), x -> x.count(2), x -> x.count(3));
+            Answers.askedFirst("hours first", made, x -> x.hours(3) + x.account(5), x -> runText(x, "h3;") + x.account(5));
+        }
+    }
+
     private static void changes() {
+        nextAnswers();
         Sentence.says("Changes", "A change is a successful call of setSetting, addPipe, removePipe, addStation, "
                 + "removeStation, setReturn, setMeter, hours or run.", () -> whatIsAChange());
         Sentence.says("Changes", "The network before each of the latest 8 changes is kept and can be undone", () -> {

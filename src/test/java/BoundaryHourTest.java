@@ -614,21 +614,36 @@ public final class BoundaryHourTest extends ByHand {
         x.addPipe(0, 1, 1, 3);
         x.addPipe(1, 2, 5, 1);
         x.addPipe(3, 0, 1, 1);
-        draw(x, 2, 4);
+        x.addPipe(2, 4, 1, 1);
+        draw(x, 4, 4);
         draw(x, 3, 2);
         // x, x, x - 4, x - 6 through 3, 5, 2, 1: 8 - 18 - 25 at 1, 32 - 8 - 16 at 2
         loopNodes("pipe 0 is the third", x, 0, 1, 2, 3);
-        int[] flows = {-2, 2, 2};
-        for (int pipe = 0; pipe < 3; pipe++) {
+        int[] flows = {-2, 2, 2, -4, 4};
+        int[] isPart = {1, 1, 1, 1, 0};
+        for (int pipe = 0; pipe < 5; pipe++) {
             due("flow(" + pipe + ")", x.flow(pipe), flows[pipe]);
-            due("pipe(" + pipe + ", 4)", x.pipe(pipe, 4), 1);
+            due("pipe(" + pipe + ", 4)", x.pipe(pipe, 4), isPart[pipe]);
         }
-        due("flow(3), told from node 3", x.flow(3), -4);
         due("3 * 4", x.head(1), 12);
         due("12 + 5 * 4", x.head(2), 32);
         due("32 - 2 * 4", x.head(3), 24);
         due("24 - 1 * 16", x.imbalance(), 8);
-        due("neededHead(), not at the last node", x.neededHead(), 32);
+        due("32 + 1 * 16, behind the loop", x.head(4), 48);
+        due("behind the loop, temperature(4, false)", x.temperature(4, false), 900);
+        due("behind the loop, temperature(4, true)", x.temperature(4, true), 200);
+    }
+
+    /** Two stations at the plant, behind the greatest resistance and the least one. */
+    private static HeatNetwork strongAndWeak(int strong, int weak) {
+        HeatNetwork x = new HeatNetwork();
+        x.setSetting(3, 0);
+        for (int node = 1; node < 3; node++) {
+            x.addPipe(0, node, node == strong ? 99 : 1, node == strong ? 9 : 1);
+        }
+        draw(x, strong, 5);
+        draw(x, weak, 1);
+        return x;
     }
 
     private static void neededHeads() {
@@ -643,6 +658,10 @@ public final class BoundaryHourTest extends ByHand {
         HeatNetwork y = new HeatNetwork();
         y.addStation(1, 99, 200, 999);
         due("a station that is not connected", y.neededHead(), 0);
+        HeatNetwork z = strongAndWeak(1, 2);
+        due("891 * 5 * 5 at the first, 1 at the second", z.neededHead(), 22275);
+        HeatNetwork w = strongAndWeak(2, 1);
+        due("1 at the first, 891 * 5 * 5 at the second", w.neededHead(), 22275);
     }
 
     private static void allHeads() {

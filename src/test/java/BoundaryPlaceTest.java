@@ -344,6 +344,9 @@ public final class BoundaryPlaceTest extends ByHand {
         z.removePipe(9);
         due("a loop that is cut hangs together", z.count(2), 10);
         due("the only way", z.distance(6), 6);
+        due("the loop is gone", z.count(3), 0);
+        thrown("loop(0)", ELEMENT, () -> z.loop(0));
+        due("what is left of it is no part of a loop", z.pipe(0, 4), 0);
     }
 
     private static void pipes() {
@@ -394,6 +397,17 @@ public final class BoundaryPlaceTest extends ByHand {
         HeatNetwork y = fullOfPipes();
         due("removePipe(9) of ten", y.removePipe(9), 9);
         due("the ninth stays", y.pipe(8, 1), 9);
+        HeatNetwork four = new HeatNetwork();
+        for (int i = 0; i < 4; i++) {
+            four.addPipe(i, i + 1, 10 + i, 1 + i);
+        }
+        four.removePipe(1);
+        int[][] rows = {{0, 1, 10, 1, 0}, {2, 3, 12, 3, 0}, {3, 4, 13, 4, 0}};
+        for (int pipe = 0; pipe < 3; pipe++) {
+            for (int what = 0; what < 5; what++) {
+                due("three of four, pipe(" + pipe + ", " + what + ")", four.pipe(pipe, what), rows[pipe][what]);
+            }
+        }
         HeatNetwork z = twoStations();
         z.removePipe(0);
         z.addPipe(0, 1, 2, 3);
