@@ -418,7 +418,8 @@ public final class BoundaryChangeTest extends ByHand {
                     x -> x.suspect(), x -> x.trial(2, 250), x -> x.bestReturn(3), x -> x.account(0),
                     x -> x.account(1), x -> x.account(2), x -> x.account(3), x -> x.efficiency(),
                     x -> x.returnDegrees(), x -> x.count(2), x -> x.count(3));
-            Answers.askedFirst("hours first", made, x -> x.hours(3) + x.account(5), x -> runText(x, "h3;") + x.account(5));
+            Answers.askedFirst("hours first", made, x -> x.hours(3) + x.account(5),
+                    x -> runText(x, "h3;") + x.account(5));
         }
     }
 

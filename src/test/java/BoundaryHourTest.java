@@ -139,7 +139,8 @@ public final class BoundaryHourTest extends ByHand {
 
     private static void beginnings() {
         loopNodes("at the plant", pipesBetween(0, 8, 8, 9, 9, 0), 0, 8, 9);
-        loopNodes("as far as can be", pipesBetween(0, 1, 1, 2, 2, 3, 3, 4, 4, 5, 5, 6, 6, 7, 7, 8, 8, 9, 9, 7), 7, 8, 9);
+        HeatNetwork far = pipesBetween(0, 1, 1, 2, 2, 3, 3, 4, 4, 5, 5, 6, 6, 7, 7, 8, 8, 9, 9, 7);
+        loopNodes("as far as can be", far, 7, 8, 9);
         loopNodes("at its highest node", pipesBetween(0, 9, 9, 2, 2, 1, 1, 9), 9, 1, 2);
         loopNodes("behind a higher node", pipesBetween(0, 9, 9, 5, 5, 1, 1, 2, 2, 5), 5, 1, 2);
         thrown("no loop in the part of the plant", ELEMENT, () -> pipesBetween(0, 1, 2, 3, 3, 4, 4, 2).loop(0));
@@ -666,8 +667,8 @@ public final class BoundaryHourTest extends ByHand {
 
     private static void allHeads() {
         Sentence.says("Heads", "The head of a connected node is the sum of the drops along a way of pipes from the "
-                + "plant to it, counted in the direction away from the plant; at the loop the way begins with the first "
-                + "pipe of the loop.", () -> {
+                + "plant to it, counted in the direction away from the plant; at the loop the way begins with the "
+                + "first pipe of the loop.", () -> {
             heads();
             headsRound();
         });
@@ -785,7 +786,8 @@ public final class BoundaryHourTest extends ByHand {
         });
         Sentence.says("Meters", "In each hour the number grows by the heat of the station, by 0, or by the heat times "
                 + "the thousandths, divided by 1000, respectively.", () -> meters());
-        Sentence.says("Meters", "The true heat of a station is the sum of its heat in all hours since it was made.", () -> {
+        Sentence.says("Meters", "The true heat of a station is the sum of its heat in all hours since it was made.",
+                () -> {
             HeatNetwork x = oneStation();
             x.setMeter(1, 1, 0);
             x.hours(3);

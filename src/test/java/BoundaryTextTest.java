@@ -4,8 +4,8 @@ import java.util.regex.Pattern;
 /** The boundaries of the text form and of what texts refuse: sentence by sentence, worked out by hand. */
 public final class BoundaryTextTest extends ByHand {
     /** The sentences on texts once more, in another notation. */
-    private static final Pattern TEXT = Pattern.compile("(?:p\\d-\\d:\\d{1,3},\\d{1,3};|s\\d:\\d{1,3},\\d{1,3},\\d{1,3};"
-            + "|x\\d;|t\\d=-?\\d{1,3};|h\\d{1,3};)+");
+    private static final Pattern TEXT = Pattern.compile("(?:p\\d-\\d:\\d{1,3},\\d{1,3};"
+            + "|s\\d:\\d{1,3},\\d{1,3},\\d{1,3};|x\\d;|t\\d=-?\\d{1,3};|h\\d{1,3};)+");
 
     private BoundaryTextTest() {
     }
@@ -74,7 +74,8 @@ public final class BoundaryTextTest extends ByHand {
         Sentence.says("Texts", "\"x\" and a node, for removing a station", () -> everyCharacter("x0;", "x9;"));
         Sentence.says("Texts", "\"t\", a setting, \"=\" and a number, possibly with \"-\" ahead of it, for a setting",
                 () -> everyCharacter("t0=1;", "t9=123;", "t5=-1;", "t2=-987;"));
-        Sentence.says("Texts", "or \"h\" and a number of hours, 1 to 24.", () -> everyCharacter("h0;", "h24;", "h999;"));
+        Sentence.says("Texts", "or \"h\" and a number of hours, 1 to 24.",
+                () -> everyCharacter("h0;", "h24;", "h999;"));
         Sentence.says("Texts", "Nodes and settings are single digits; other numbers have 1 to 3 digits.",
                 () -> digits());
         Sentence.says("Texts", "The fault position of a text is the index of its first character that cannot continue "
@@ -457,8 +458,8 @@ public final class BoundaryTextTest extends ByHand {
             thrown("no reason is kept", ELEMENT, () -> x.refusal());
             due("no change", x.count(4), 0);
         });
-        Sentence.says("Promise 12", "Throws UnsupportedOperationException if a definition is refused, each behind those "
-                + "ahead of it; the reason is kept for refusal", () -> behindThoseAhead());
+        Sentence.says("Promise 12", "Throws UnsupportedOperationException if a definition is refused, each behind "
+                + "those ahead of it; the reason is kept for refusal", () -> behindThoseAhead());
         Sentence.says("Promise 13", "Returns the fault position, or -1 if that text had no fault or run has not been "
                 + "called.", () -> faultPositions());
     }
