@@ -685,12 +685,16 @@ public final class BoundaryChangeTest extends ByHand {
                 + "determines the exception.", () -> firstListed());
     }
 
-    public static void main(String[] arguments) {
+    static void all() {
         hours();
         changes();
         undos();
         saved();
         exceptions();
+    }
+
+    public static void main(String[] arguments) {
+        all();
         Check.end("BoundaryChangeTest");
     }
 }

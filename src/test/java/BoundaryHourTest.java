@@ -936,7 +936,7 @@ public final class BoundaryHourTest extends ByHand {
         });
     }
 
-    public static void main(String[] arguments) {
+    static void all() {
         stationFlows();
         pipeFlows();
         temperatures();
@@ -944,6 +944,10 @@ public final class BoundaryHourTest extends ByHand {
         allHeads();
         allMeters();
         lastPromises();
+    }
+
+    public static void main(String[] arguments) {
+        all();
         Check.end("BoundaryHourTest");
     }
 }

@@ -915,7 +915,7 @@ public final class BoundaryPlaceTest extends ByHand {
         due("the loop of another part", z.count(3), 0);
     }
 
-    public static void main(String[] arguments) {
+    static void all() {
         Sentence.says("What it is", "An object is used for at most 512 calls after it has been made",
                 () -> lastCall());
         Sentence.says("Promise 1", "Creates a network without pipes and stations.", () -> nothingThere());
@@ -926,6 +926,10 @@ public final class BoundaryPlaceTest extends ByHand {
         stations();
         stationPromises();
         whats();
+    }
+
+    public static void main(String[] arguments) {
+        all();
         Check.end("BoundaryPlaceTest");
     }
 }

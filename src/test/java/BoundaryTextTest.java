@@ -498,12 +498,16 @@ public final class BoundaryTextTest extends ByHand {
         });
     }
 
-    public static void main(String[] arguments) {
+    static void all() {
         forms();
         eachReason();
         appends();
         runs();
         refusals();
+    }
+
+    public static void main(String[] arguments) {
+        all();
         Check.end("BoundaryTextTest");
     }
 }

@@ -13,6 +13,11 @@ abstract class ByHand {
     /** No nodes; 65536 and 2^31 more or less than a node must not be taken for it. */
     static final int[] NO_NODES = {-1, 10, 11, 16, 32, 65536, FAR, FAR_BELOW, FAR_BELOW + 1};
 
+    /** No pipes of a network that has some. */
+    static int[] noPipes(int pipes) {
+        return new int[] {-1, pipes, pipes + 1, 10, 65536, FAR, FAR_BELOW};
+    }
+
     static void due(String call, Object got, Object want) {
         Check.due(call, got, want);
     }
@@ -68,6 +73,39 @@ abstract class ByHand {
         x.addPipe(1, 2, 1, 1);
         x.addStation(2, 99, 200, 3);
         x.addStation(3, 99, 200, 8);
+        return x;
+    }
+
+    /**
+     * Each pipe leaves f / (f + 1) of the difference to the ground. 4 go from the plant to node 1 and arrive at 740,
+     * 3 of them go to node 2 and arrive at 580, 1 goes to node 3 and arrives at 420. Back come 175 and 200 at node 1,
+     * which mix to 181, 1 left, and 164 at the plant. Heads: 32, 86 and 36.
+     */
+    static HeatNetwork fork() {
+        HeatNetwork x = new HeatNetwork();
+        x.setSetting(3, 50);
+        x.addPipe(0, 1, 2, 1);
+        x.addPipe(2, 1, 2, 3);
+        x.addPipe(1, 3, 2, 2);
+        x.addStation(2, 99, 200, 3);
+        x.addStation(3, 99, 300, 1);
+        return x;
+    }
+
+    /**
+     * The same pipes in a loop at the plant, each with a resistance of 2; 1 is drawn at node 1 and 4 at node 2. To
+     * node 1 go 3 and arrive at 700, 2 of them go on to node 2 and arrive at 500, where 2 from the plant arrive at 633:
+     * that is 566, 2 left. Back come 166 and 166; at node 1 that is 177, 1 left, and at the plant 157 and 166: 160,
+     * 3 left.
+     */
+    static HeatNetwork ring() {
+        HeatNetwork x = new HeatNetwork();
+        x.setSetting(3, 50);
+        x.addPipe(0, 2, 2, 1);
+        x.addPipe(2, 1, 2, 1);
+        x.addPipe(1, 0, 2, 1);
+        x.addStation(1, 99, 200, 1);
+        x.addStation(2, 99, 200, 4);
         return x;
     }
 

@@ -36,7 +36,33 @@ public final class FaceTest {
         return face;
     }
 
+    /** A promise each, in the order of the face: the signature, then the parameters in their order. */
+    private static void promises() throws IOException {
+        String document = Files.readString(Path.of("../shared/DOC.md"));
+        String face = document.substring(document.indexOf("```java"), document.indexOf("## Description"));
+        Matcher listed = Pattern.compile("    public (.*);\n").matcher(face);
+        Matcher promised = Pattern.compile("\n## Promise (\\d+): [^\n]*\n\n`([^`]*)`\n(.*?)(?=\n## )", Pattern.DOTALL)
+                .matcher(document);
+        int number = 0;
+        while (promised.find()) {
+            number++;
+            Check.due("the number of promise " + number, promised.group(1), String.valueOf(number));
+            String signature = listed.find() ? listed.group(1) : "nothing";
+            Check.due("the signature of promise " + number, promised.group(2), signature);
+            List<String> told = new ArrayList<>();
+            Matcher parameter = Pattern.compile("\n- `(\\w+)`: ").matcher(promised.group(3));
+            while (parameter.find()) {
+                told.add(parameter.group(1));
+            }
+            String between = signature.replaceAll(".*\\(|\\).*", "").replaceAll("\\w+ (\\w+)", "$1");
+            Check.due("the parameters of promise " + number, String.join(", ", told), between);
+        }
+        Check.due("40 promises", number, 40);
+        Check.due("no signature without a promise", listed.find(), false);
+    }
+
     public static void main(String[] arguments) throws IOException {
+        promises();
         TreeSet<String> found = new TreeSet<>();
         TreeSet<String> hidden = new TreeSet<>();
         TreeSet<String> shown = new TreeSet<>();
