@@ -12,6 +12,8 @@ public final class RandomRunsTest {
         "setSetting", "setSetting", "removePipe", "removeStation", "setReturn", "setMeter", "hours", "hours", "text",
         "text", "undo", "save", "restore", "append", "trial", "bestReturn", "refusal", "run"};
 
+    private static final int COLD_RUNS = 30;
+
     private final Random random;
     private final Map<String, Method> mine = new HashMap<>();
     private final Map<String, Method> theirs = new HashMap<>();
@@ -261,12 +263,87 @@ public final class RandomRunsTest {
         }
     }
 
+    /**
+     * A station whose flow swings ever wider, until in the twelfth round so little comes that it arrives colder than
+     * what the station gives back; random networks hardly ever have one. Another station behind it draws in the first
+     * round alone, as otherwise the first flow would be the least of all. Answers whether such a network was found.
+     */
+    private boolean buildCold() {
+        for (int i = 0; i < 1000000; i++) {
+            int supply = from(900, 1200);
+            int loss = from(50, 99);
+            int outdoor = from(-300, 199);
+            int length = from(1, 99);
+            int size = from(1, 99);
+            int back = from(500, 600);
+            int farSize = from(1, 99);
+            int first = drawn(farSize * (200 - outdoor), supply - 600);
+            if (arrivesLast(supply, length * loss, size * (200 - outdoor), back, first) < back
+                    && cooled(supply, 99 * loss, first) < 650) {
+                both("setSetting", 0, supply);
+                both("setSetting", 2, outdoor);
+                both("setSetting", 3, loss);
+                both("addPipe", 4, 0, length, from(1, 9));
+                both("addPipe", 4, 2, 99, from(1, 9));
+                both("addStation", 4, size, back, 999);
+                both("addStation", 2, farSize, 600, 999);
+                return true;
+            }
+        }
+        return false;
+    }
+
+    private static int drawn(int wanted, int difference) {
+        return difference < 50 ? 0 : Math.min(999, (wanted + difference - 1) / difference);
+    }
+
+    private static int cooled(int entering, int lost, int flow) {
+        return flow == 0 ? 100 : 100 + (entering - 100) * 100 * flow / (100 * flow + lost);
+    }
+
+    /** The temperature at which the water of the twelfth round arrives. */
+    private static int arrivesLast(int supply, int lost, int wanted, int back, int more) {
+        int arrives = cooled(supply, lost, drawn(wanted, supply - back) + more);
+        for (int round = 2; round <= 12; round++) {
+            int flow = drawn(wanted, arrives - back);
+            if (flow == 0) {
+                return supply;
+            }
+            arrives = cooled(supply, lost, flow);
+        }
+        return arrives;
+    }
+
+    /** What is metered and paid where the heat of a station is below 0. */
+    private void goCold(int number) {
+        network = new HeatNetwork();
+        reference = new ReferenceNetwork();
+        run = "cold run " + number;
+        Check.due(run + " has a network", buildCold(), true);
+        String[] changes = {"setMeter", "price", "rate", "hours", "hours", "bestReturn", "trial", "undo"};
+        for (int i = 0; i < 10; i++) {
+            switch (changes[random.nextInt(changes.length)]) {
+                case "setMeter" -> both("setMeter", 4, from(0, 2), from(0, 2000));
+                case "price" -> both("setSetting", 5, from(0, 999));
+                case "rate" -> both("setSetting", 6, from(0, 99));
+                case "hours" -> both("hours", from(1, 24));
+                case "bestReturn" -> both("bestReturn", 4);
+                case "trial" -> both("trial", 4, from(200, 600));
+                default -> both("undo");
+            }
+            look();
+        }
+    }
+
     public static void main(String[] arguments) {
         long seed = arguments.length > 0 ? Long.parseLong(arguments[0]) : 20261118L;
         int runs = arguments.length > 1 ? Integer.parseInt(arguments[1]) : 300;
         RandomRunsTest test = new RandomRunsTest(seed);
         for (int i = 0; i < runs && Check.wrongSoFar() < 20; i++) {
             test.go(i);
+        }
+        for (int i = 0; i < COLD_RUNS && Check.wrongSoFar() < 20; i++) {
+            test.goCold(i);
         }
         System.out.println("reached: " + new java.util.TreeMap<>(test.seen));
         if (arguments.length == 0) {
