@@ -603,6 +603,11 @@ public final class HeatNetwork {
         return isWithin(node, 0, NODES - 1);
     }
 
+    /** Whether a pipe can have the number: -1 stands for no pipe. */
+    private static boolean isPipe(int pipe) {
+        return pipe >= 0 && pipe < MOST_PIPES;
+    }
+
     private static boolean isWithin(int value, int least, int greatest) {
         return value >= least && value <= greatest;
     }
@@ -875,7 +880,7 @@ public final class HeatNetwork {
                 int node = order[i];
                 for (int pipe = 0; pipe < network.pipes; pipe++) {
                     int next = network.farEnd(pipe, node);
-                    if (next >= 0 && distances[next] < 0) {
+                    if (isNode(next) && distances[next] < 0 && connected < NODES) {
                         distances[next] = distances[node] + 1;
                         feeders[next] = node;
                         firstPipes[next] = pipe;
@@ -892,13 +897,13 @@ public final class HeatNetwork {
             }
             loopLength = 0;
             int closing = closingPipe(network);
-            if (closing < 0) {
+            if (!isPipe(closing)) {
                 return;
             }
             isInLoop[closing] = true;
             int left = network.ones[closing];
             int right = network.others[closing];
-            for (int step = 0; step < NODES && left != right && left >= 0 && right >= 0; step++) {
+            for (int step = 0; step < NODES && left != right && isNode(left) && isNode(right); step++) {
                 if (distances[left] >= distances[right]) {
                     left = climb(left);
                 } else {
@@ -911,7 +916,7 @@ public final class HeatNetwork {
         /** Takes the pipe toward the plant into the loop; answers the node at its other end, -1 from the plant. */
         private int climb(int node) {
             int pipe = firstPipes[node];
-            if (pipe >= 0) {
+            if (isPipe(pipe)) {
                 isInLoop[pipe] = true;
             }
             return feeders[node];
@@ -934,7 +939,7 @@ public final class HeatNetwork {
             int pipe = -1;
             for (int i = 0; i < NODES && (i == 0 || node != beginning); i++) {
                 pipe = nextInLoop(network, node, pipe);
-                if (pipe < 0) {
+                if (!isPipe(pipe)) {
                     return;
                 }
                 loopNodes[i] = node;
@@ -950,7 +955,7 @@ public final class HeatNetwork {
             int lowest = NODES;
             for (int pipe = 0; pipe < network.pipes; pipe++) {
                 int end = network.farEnd(pipe, node);
-                if (isInLoop[pipe] && pipe != before && end >= 0 && end < lowest) {
+                if (isInLoop[pipe] && pipe != before && isNode(end) && end < lowest) {
                     next = pipe;
                     lowest = end;
                 }
@@ -1062,7 +1067,7 @@ public final class HeatNetwork {
             for (int i = shape.connected - 1; i >= 0; i--) {
                 int node = shape.order[i];
                 int feeder = shape.feeders[node];
-                if (feeder >= 0) {
+                if (isNode(feeder)) {
                     flowsBehind[feeder] += flowsBehind[node];
                 }
                 if (shape.secondPipes[node] < 0) {
@@ -1112,7 +1117,7 @@ public final class HeatNetwork {
 
         /** The plant has no pipe toward itself: then it is -1. */
         private void carry(Network network, int pipe, int from, int carried) {
-            if (pipe >= 0) {
+            if (isPipe(pipe)) {
                 pipeFlows[pipe] = network.ones[pipe] == from ? carried : -carried;
             }
         }
@@ -1122,8 +1127,7 @@ public final class HeatNetwork {
             for (int i = 0; i < shape.connected; i++) {
                 int node = shape.order[i];
                 if (shape.secondPipes[node] < 0) {
-                    waterOrder[filled] = node;
-                    filled++;
+                    filled = putInOrder(node, filled);
                 }
                 if (shape.isLoopBeginning(node)) {
                     filled = putLoopInOrder(shape, filled);
@@ -1136,17 +1140,24 @@ public final class HeatNetwork {
             int filled = from;
             for (int i = 1; i < shape.loopLength; i++) {
                 if (loopFlows[i] >= 0) {
-                    waterOrder[filled] = shape.loopNodes[i];
-                    filled++;
+                    filled = putInOrder(shape.loopNodes[i], filled);
                 }
             }
             for (int i = shape.loopLength - 1; i > 0; i--) {
                 if (loopFlows[i] < 0) {
-                    waterOrder[filled] = shape.loopNodes[i];
-                    filled++;
+                    filled = putInOrder(shape.loopNodes[i], filled);
                 }
             }
             return filled;
+        }
+
+        /** Answers how many nodes are in order then. */
+        private int putInOrder(int node, int filled) {
+            if (filled >= NODES) {
+                return filled;
+            }
+            waterOrder[filled] = node;
+            return filled + 1;
         }
 
         private void findTemperatures(Network network, Shape shape) {
@@ -1169,7 +1180,7 @@ public final class HeatNetwork {
 
         /** The flow that a pipe carries to a node, 0 if it carries none to it or is -1. */
         private int flowTo(Network network, int pipe, int node) {
-            if (pipe < 0) {
+            if (!isPipe(pipe)) {
                 return 0;
             }
             int carried = network.others[pipe] == node ? pipeFlows[pipe] : -pipeFlows[pipe];
@@ -1180,7 +1191,7 @@ public final class HeatNetwork {
         private long bring(Network network, int pipe, int node) {
             int carried = flowTo(network, pipe, node);
             int from = carried == 0 ? -1 : network.farEnd(pipe, node);
-            if (from < 0) {
+            if (!isNode(from)) {
                 return 0;
             }
             int entering = hotTemperatures[from];
@@ -1210,7 +1221,7 @@ public final class HeatNetwork {
         private void sendBack(Network network, int pipe, int node) {
             int carried = flowTo(network, pipe, node);
             int to = carried == 0 ? -1 : network.farEnd(pipe, node);
-            if (to < 0) {
+            if (!isNode(to)) {
                 return;
             }
             int entering = coolTemperatures[node];
@@ -1226,7 +1237,7 @@ public final class HeatNetwork {
                 int node = shape.order[i];
                 int feeder = shape.feeders[node];
                 int pipe = shape.firstPipes[node];
-                if (feeder >= 0 && pipe >= 0 && shape.secondPipes[node] < 0) {
+                if (isNode(feeder) && isPipe(pipe) && shape.secondPipes[node] < 0) {
                     heads[node] = heads[feeder] + network.dropOf(pipe, flowsBehind[node]);
                 }
                 if (shape.isLoopBeginning(node)) {
